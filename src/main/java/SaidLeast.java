@@ -308,6 +308,15 @@ public final class SaidLeast {
         return (set >> member & 1) != 0;
     }
 
+    private static int firstOf(int people) {
+        for (int person = 0; person < MOST_PEOPLE; person++) {
+            if (has(people, person)) {
+                return person;
+            }
+        }
+        return NONE;
+    }
+
     /** The bytes that were written. */
     private static final class Text {
         final byte[] bytes = new byte[MOST_BYTES];
@@ -870,12 +879,12 @@ public final class SaidLeast {
             if (now.there == 0) {
                 return t == 0 && people == 0 ? 1 : 0;
             }
-            if (people == 0 || (people & ~now.there) != 0) {
+            int one = firstOf(people);
+            if (one == NONE || (people & ~now.there) != 0) {
                 return 0;
             }
-            int one = Integer.numberOfTrailingZeros(people);
             long sum = 0;
-            for (int more = 0; one < MOST_PEOPLE && more <= MOST_OUT_EACH; more++) {
+            for (int more = 0; more <= MOST_OUT_EACH; more++) {
                 sum += waysAtLevel(now, t, people, now.words[one] + more);
             }
             return sum;
@@ -924,8 +933,8 @@ public final class SaidLeast {
         private boolean isLeastBehind(State now, int person, int n, int path) {
             then.copyFrom(now);
             for (int turn = 0; turn < n; turn++) {
-                int speaker = Integer.numberOfTrailingZeros(then.least());
-                if (speaker < MOST_PEOPLE) {
+                int speaker = firstOf(then.least());
+                if (speaker != NONE) {
                     then.words[speaker] += has(path, turn) ? 2 : 1;
                 }
             }

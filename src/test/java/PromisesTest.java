@@ -154,6 +154,10 @@ public final class PromisesTest {
         faultOf("Q0P00S010-S0101", 14);
         faultOf("Q0P00S010-S0100S0100", 19);
         faultOf("Q0P00S010-S0100S0101", NONE);
+        faultOf("Q0P00S010-S0100S0101S0100", 24);
+        faultOf("Q0P00S010-S0100S0101S0102", NONE);
+        faultOf("Q0P00S0:0-", 7);
+        faultOf("Q0P00S01:-", 8);
         faultOf("Q0P00S110-P00", 6);
         faultOf("Q0P00P00S510-", 9);
         faultOf("Q0P00A00P00A00P00A00", NONE);
@@ -344,6 +348,8 @@ public final class PromisesTest {
         x.law(2);
         due("13: most of those there", x.come(2), 5);
         due("13: it is there", x.come(2), LATE);
+        SaidLeast y = of("Q2P08P05A99");
+        due("13: most of those there, the first", y.come(2), 8);
         due("13: none such", x.come(5), UNKNOWN);
         due("13: none such", x.come(-1), UNKNOWN);
         due("13: the row", x.about(7), 7);
@@ -527,6 +533,9 @@ public final class PromisesTest {
         due("19: away", x.soon(1), NONE);
         x = of("Q0P00P09S011-S1150");
         due("19: the least of ways", x.soon(1), 1);
+        x = of("Q0P00S021-");
+        x.say(0);
+        due("19: all was said", x.soon(0), NONE);
         x = of("Q0P00P02S091-S021-S115-");
         due("19: fewest words", x.soon(2), 2);
     }
