@@ -925,8 +925,7 @@ public final class SaidLeast {
                 }
             }
             lower = POWERS_OF_TEN[n];
-            cancel(n, 2);
-            cancel(n, 5);
+            cancel(n);
         }
 
         /** A path's bits tell the turns in which two words are said. */
@@ -949,11 +948,16 @@ public final class SaidLeast {
             return product;
         }
 
-        private void cancel(int n, int divisor) {
+        /** What is below is a power of ten, so only twos and fives can be common. */
+        private void cancel(int n) {
             for (int i = 0; i < n; i++) {
-                if (upper % divisor == 0 && lower % divisor == 0) {
-                    upper /= divisor;
-                    lower /= divisor;
+                if (upper % 2 == 0 && lower % 2 == 0) {
+                    upper /= 2;
+                    lower /= 2;
+                }
+                if (upper % 5 == 0 && lower % 5 == 0) {
+                    upper /= 5;
+                    lower /= 5;
                 }
             }
         }
