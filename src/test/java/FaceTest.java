@@ -136,7 +136,7 @@ public final class FaceTest {
             StringBuilder told = new StringBuilder();
             try {
                 if (run % 4 != 0) {
-                    tell(x, random.nextBoolean() ? "Q1P05P05P07A99P05P05S011-S1220S213-S314-S4151S516-S0176S1187" : "Q2P00S011-S012-");
+                    tell(x, random.nextBoolean() ? "Q1P05P05P07A99P05P05S011-S1220S213-S314-S4151S516-S0175S1186" : "Q2P00S011-S012-");
                 }
                 for (int i = 0; i < 600; i++) {
                     anyCall(x, random, told);
@@ -152,7 +152,9 @@ public final class FaceTest {
         for (int i = 0; i < text.length(); i++) {
             x.write(1, text.charAt(i));
         }
-        x.parlour();
+        if (x.parlour() == SaidLeast.LATE) {
+            fails("no parlour: " + text);
+        }
     }
 
     private static int any(Random random) {
@@ -202,7 +204,7 @@ public final class FaceTest {
             return;
         }
         SaidLeast x = new SaidLeast();
-        tell(x, "Q1P05P05P07A99P05P05S011-S1220S213-S314-S4151S516-S0176S1187");
+        tell(x, "Q1P05P05P07A99P05P05S011-S1220S213-S314-S4151S516-S0175S1186");
         Random random = new Random(8L);
         long sum = 0;
         long fewest = Long.MAX_VALUE;
