@@ -398,16 +398,16 @@ public final class SaidLeast {
         }
 
         int least() {
-            int fewest = Integer.MAX_VALUE;
+            int fewest = 0;
             int set = 0;
             for (int person = 0; person < MOST_PEOPLE; person++) {
-                if (!has(there, person) || words[person] > fewest) {
+                if (!has(there, person) || set != 0 && words[person] > fewest) {
                     continue;
                 }
                 if (words[person] < fewest) {
-                    fewest = words[person];
                     set = 0;
                 }
+                fewest = words[person];
                 set |= 1 << person;
             }
             return set;

@@ -32,6 +32,7 @@ public final class FaceTest {
         publicFace();
         hiddenMembers();
         language();
+        lengthOfMethods();
         neverThrows();
         makesNothing();
         System.out.println(wrong == 0 ? "the face and the language are as due" : wrong + " faults");
@@ -124,8 +125,30 @@ public final class FaceTest {
                 fails("import of " + imports.group(1));
             }
         }
+        Matcher library = Pattern.compile("\\b(Integer|Long|Math|Arrays|System)\\.\\w+\\b(\\s*\\()?").matcher(code);
+        while (library.find()) {
+            if (!library.group().matches("(Integer\\.bitCount|Math\\.(max|min)|Arrays\\.fill|System\\.arraycopy)\\(")) {
+                fails("not in the library: " + library.group());
+            }
+        }
         if (Pattern.compile("\\bfor\\s*\\(\\s*;|\\bwhile\\s*\\(\\s*true").matcher(code).find()) {
             fails("a loop without an end");
+        }
+    }
+
+    /** A method of the class begins at one or two steps to the right and ends with a brace just there. */
+    private static void lengthOfMethods() throws Exception {
+        String source = Files.readString(Path.of("src/main/java/SaidLeast.java"), StandardCharsets.ISO_8859_1);
+        Matcher method = Pattern.compile("(?m)^((?: {4}){1,2})(?! |return|if|for|else)[^\n;=]*\\([^\n;]*\\) \\{\n(?s:.*?)^\\1\\}").matcher(source);
+        int found = 0;
+        while (method.find()) {
+            found++;
+            if (method.group().split("\n").length > 60) {
+                fails("longer than sixty lines: " + method.group().split("\n")[0]);
+            }
+        }
+        if (found < METHODS.length) {
+            fails("only " + found + " methods were looked at");
         }
     }
 

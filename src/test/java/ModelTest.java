@@ -11,6 +11,9 @@ import java.util.regex.Pattern;
 public final class ModelTest {
     private static final int RUNS = 1500;
     private static final int CALLS = 100;
+    private static final int WHOLE_LIVES = 150;
+    private static final int MOST_CALLS = 512;
+    private static final int MOST_CALLS_TO_TELL = 1 + 60 + 5 + 2;
     private static final String SIGNS = "Q0123456789PAS-";
     private static int wrong = 0;
 
@@ -18,6 +21,9 @@ public final class ModelTest {
         Random random = new Random(20261118L);
         for (int run = 0; run < RUNS && wrong < 20; run++) {
             new Run(run, random).play();
+        }
+        for (int run = RUNS; run < RUNS + WHOLE_LIVES && wrong < 20; run++) {
+            new Run(run, random).liveOut();
         }
         System.out.println(wrong == 0 ? "all answers are as the model's" : wrong + " answers are not as the model's");
         if (wrong != 0) {
@@ -47,6 +53,16 @@ public final class ModelTest {
             }
             for (int what = 0; what <= 10 && wrong == before; what++) {
                 due("about(" + what + ")", real.about(what), model.about(what));
+            }
+        }
+
+        /** An object answers as it should up to its last promised call. */
+        void liveOut() {
+            int before = wrong;
+            tell(randomText(false));
+            while (told.size() < MOST_CALLS && wrong == before) {
+                boolean canTell = told.size() + MOST_CALLS_TO_TELL <= MOST_CALLS;
+                call(canTell ? random.nextInt(40) : 1 + random.nextInt(39));
             }
         }
 

@@ -31,6 +31,7 @@ public final class PromisesTest {
         chance();
         keep();
         again();
+        asTheReadmeTells();
         System.out.println(wrong == 0 ? "all promises are kept" : wrong + " answers are not as due");
         if (wrong != 0) {
             System.exit(1);
@@ -660,5 +661,34 @@ public final class PromisesTest {
         due("25: as before", x.about(5), 1);
         due("25: the other was not kept", x.again(0), LATE);
         due("25: it stays as it was", x.about(9), 0);
+    }
+
+    /** The example of README.md, call by call. */
+    private static void asTheReadmeTells() {
+        SaidLeast x = new SaidLeast();
+        due("README: write", x.write(8, 0x5130503030503032L), 8);
+        due("README: write", x.write(5, 0x533031352DL), 13);
+        due("README: write", x.write(5, 0x5331323730L), 18);
+        due("README: fault", x.fault(), NONE);
+        due("README: parlour", x.parlour(), 2);
+        due("README: may", x.may(0), 1);
+        due("README: may", x.may(1), 0);
+        due("README: most", x.most(72), 12);
+        due("README: mostAt", x.mostAt(72, 0), 0);
+        due("README: mostAt", x.mostAt(72, 1), 1);
+        due("README: mostAt", x.mostAt(72, 2), NONE);
+        due("README: soon", x.soon(1), 1);
+        due("README: need", x.need(1), 2);
+        due("README: each", x.each(), 1);
+        due("README: out", x.out(3, 1), 3);
+        due("README: chance", x.chance(1, 1, 3, true), 7);
+        due("README: chance", x.chance(1, 1, 3, false), 10);
+        due("README: keep", x.keep(0), 2);
+        due("README: say", x.say(0), 1);
+        due("README: say", x.say(1), 4);
+        due("README: talk", x.talk(1, 1), LATE);
+        due("README: undo", x.undo(), 1);
+        due("README: again", x.again(0), 2);
+        due("README: undo", x.undo(), LATE);
     }
 }
